@@ -73,18 +73,14 @@ public final class JinjaTongue {
         program = null;
         Program next = new Program(text);
         try {
-            build(next);
+            parser.parse(next);
+            next.judgeNames();
+            bodies.judge(next);
         } catch (IllegalStateException fault) {
             return text.fault;
         }
         program = next;
         return 0;
-    }
-
-    private void build(Program next) {
-        parser.parse(next);
-        next.judgeNames();
-        bodies.judge(next);
     }
 
     /** The class or interface k; null if there is none such. */
@@ -101,15 +97,15 @@ public final class JinjaTongue {
             case 0:
                 return decl.parent == null ? NONE : decl.parent.number;
             case 1:
-                return decl.fieldCount();
+                return decl.layout.size();
             case 2:
-                return program.methodNames(decl);
+                return decl.known.size();
             case 3:
                 return decl.isInterface ? 1 : 0;
             case 4:
                 return Long.bitCount(decl.above);
             case 5:
-                return decl.isInterface ? NONE : 1 + decl.fieldCount();
+                return decl.isInterface ? NONE : decl.cells();
             default:
                 return NONE;
         }
@@ -236,6 +232,8 @@ public final class JinjaTongue {
         /** A NUMBER's number, a NAME's name. */
         private final int[] values;
         private final byte[] roles;
+        /** The types that begin at tokens, as Program has them. */
+        private final int[] types;
         int size;
         private final int[] nameStarts;
         private final int[] nameLengths;
@@ -258,6 +256,7 @@ public final class JinjaTongue {
             places = new int[TAPE_BYTES];
             values = new int[TAPE_BYTES];
             roles = new byte[TAPE_BYTES];
+            types = new int[TAPE_BYTES];
             nameStarts = new int[MOST_NAMES];
             nameLengths = new int[MOST_NAMES];
             nameNexts = new int[MOST_NAMES];
@@ -383,6 +382,7 @@ public final class JinjaTongue {
                 places[size] = place;
                 values[size] = value;
                 roles[size] = NO_TYPE;
+                types[size] = Program.VOID;
                 size++;
             }
             return end;
@@ -450,13 +450,19 @@ public final class JinjaTongue {
             }
         }
 
-        int faultAt(int number, int token) {
-            return number + 16 * placeAt(token);
+        int typeAt(int token) {
+            return token >= 0 && token < size ? types[token] : Program.VOID;
+        }
+
+        void giveType(int token, int type) {
+            if (token >= 0 && token < size) {
+                types[token] = type;
+            }
         }
 
         /** Ends the reading of the text. */
-        void fail(int faulty) {
-            fault = faulty;
+        void fail(int number, int token) {
+            fault = number + 16 * (token >= 0 && token < size ? places[token] : length);
             throw new IllegalStateException("the text is at fault");
         }
     }
@@ -466,19 +472,21 @@ public final class JinjaTongue {
         // OPERANDS and what stands behind them.
         static final int NUMBER = 0, TRUE = 1, FALSE = 2, NULL = 3, THIS = 4, NAME = 5, READ = 6, GROUP = 7;
         static final int OBJECT = 8, ARRAY = 9, CALL = 10, SUPER = 11, FIELD = 12, LENGTH = 13, INDEX = 14;
-        // PREFIX: - ~ ! ahead; SIGN: a sign between two; CHECK: is, as; CHOICE: ? :
-        static final int PREFIX = 15, SIGN = 16, CHECK = 17, CHOICE = 18;
+        // PREFIX: - ~ ahead; SIGN: a sign between two, but for SHORT: && ||; CHECK: is, as; CHOICE: ? :
+        static final int PREFIX = 15, NOT = 16, SIGN = 17, SHORT = 18, CHECK = 19, CHOICE = 20;
         // STATEMENTS; DO: a CALL.
-        static final int BLOCK = 20, LOCAL = 21, ASSIGN = 22, DO = 23, IF = 24, WHILE = 25, FOR = 26, RETURN = 27;
-        static final int BREAK = 28, CONTINUE = 29, THROW = 30, TRY = 31, PRINT = 32, EMPTY = 33, CATCH = 34;
+        static final int BLOCK = 21, LOCAL = 22, ASSIGN = 23, DO = 24, IF = 25, WHILE = 26, FOR = 27, RETURN = 28;
+        static final int BREAK = 29, CONTINUE = 30, THROW = 31, TRY = 32, PRINT = 33, EMPTY = 34, CATCH = 35;
         // A field or a PARAMETER.
-        static final int VARIABLE = 35;
+        static final int VARIABLE = 36;
 
         final int kind;
         /** The token that tells which one it is: its NAME, its sign, its word. */
         final int token;
         /** Its first token; of a variable that of its TYPE. */
         final int first;
+        /** Of a field or a PARAMETER. */
+        int name;
         /** The closing parenthesis of a call, the last brace of a BLOCK. */
         int end;
         /** Of a field, and of what means one, its number within the object. */
@@ -555,7 +563,10 @@ public final class JinjaTongue {
         Decl parent;
         /** A bit for each one above it. */
         long above;
-        int fieldsAbove;
+        /** The fields of its objects, from above downwards. */
+        final ArrayList<Node> layout;
+        /** The methods that it has, its own and from above, of one NAME one. */
+        final ArrayList<Method> known;
 
         Decl(int number, int name, int token, boolean isInterface) {
             this.number = number;
@@ -565,10 +576,33 @@ public final class JinjaTongue {
             extended = NONE;
             fields = new ArrayList<Node>();
             methods = new ArrayList<Method>();
+            layout = new ArrayList<Node>();
+            known = new ArrayList<Method>();
         }
 
-        int fieldCount() {
-            return fieldsAbove + fields.size();
+        /** The CELLS of an object. */
+        int cells() {
+            return 1 + layout.size();
+        }
+
+        /** The field of that name that its objects have, or null. */
+        Node fieldOf(int wanted) {
+            for (int i = 0; i < layout.size(); i++) {
+                if (layout.get(i).name == wanted) {
+                    return layout.get(i);
+                }
+            }
+            return null;
+        }
+
+        /** The method of that name that it has, or null. */
+        Method methodOf(int wanted) {
+            for (int i = 0; i < known.size(); i++) {
+                if (known.get(i).name == wanted) {
+                    return known.get(i);
+                }
+            }
+            return null;
         }
 
         /** Its own method of that name, or null. */
@@ -654,33 +688,12 @@ public final class JinjaTongue {
 
         // ---- types
 
-        /** The SORT that stands at the token, or void. */
-        int sortAt(int token) {
-            switch (text.kindAt(token)) {
-                case Text.INT:
-                    return INT;
-                case Text.BOOLEAN:
-                    return BOOLEAN;
-                case Text.NAME:
-                    int k = find(text.valueAt(token));
-                    return k == NONE ? VOID : k;
-                default:
-                    return VOID;
-            }
-        }
-
-        int typeAt(int token) {
-            boolean isArray = text.kindAt(token + 1) == Text.OPEN_INDEX && text.kindAt(token + 2) == Text.CLOSE_INDEX;
-            return isArray ? ARRAY + sortAt(token) : sortAt(token);
-        }
-
         static boolean isReference(int type) {
             return type != INT && type != BOOLEAN && type != VOID;
         }
 
         boolean isAbove(int k, int lower) {
-            Decl decl = decl(lower);
-            return decl != null && k >= 0 && k < size && (decl.above >>> k & 1) == 1;
+            return k >= 0 && k < size && lower >= 0 && lower < size && (decls[lower].above >>> k & 1) == 1;
         }
 
         boolean fits(int type, int wanted) {
@@ -707,60 +720,12 @@ public final class JinjaTongue {
             return isReference(left) && isReference(right) && fits(right, left) ? left : VOID;
         }
 
-        // ---- what classes and interfaces have
-
-        private Method firstFromAbove(Decl decl, int name) {
-            for (int k = 0; k < size; k++) {
-                Method method = isAbove(k, decl.number) ? decls[k].own(name) : null;
-                if (method != null) {
-                    return method;
-                }
-            }
-            return null;
-        }
-
-        /** A method of that name that it has, its own or from above; null if it has none. */
-        Method methodOf(Decl decl, int name) {
-            Method own = decl.own(name);
-            return own == null ? firstFromAbove(decl, name) : own;
-        }
-
-        /** The field of that name, its own or from above; null if it has none. */
-        Node fieldOf(Decl decl, int name) {
-            for (Decl holder = decl; holder != null; holder = holder.parent) {
-                for (int i = 0; i < holder.fields.size(); i++) {
-                    if (nameOf(holder.fields.get(i)) == name) {
-                        return holder.fields.get(i);
-                    }
-                }
-            }
-            return null;
-        }
-
-        private int nameOf(Node variable) {
-            return text.valueAt(variable.token);
-        }
-
-        /** How many methods it has, its own and from above, of one NAME one. */
-        int methodNames(Decl decl) {
-            int found = decl.methods.size();
-            for (int k = 0; k < size; k++) {
-                ArrayList<Method> told = decls[k].methods;
-                for (int i = 0; i < told.size() && isAbove(k, decl.number); i++) {
-                    int name = told.get(i).name;
-                    if (decl.own(name) == null && firstFromAbove(decl, name) == told.get(i)) {
-                        found++;
-                    }
-                }
-            }
-            return found;
-        }
-
         // ---- the rounds of NAMES
 
         void judgeNames() {
             firstRound();
             settle();
+            resolveTypes();
             link();
             for (int k = BUILT_IN; k < size; k++) {
                 if (isAbove(k, k)) {
@@ -774,12 +739,13 @@ public final class JinjaTongue {
         }
 
         private void report(int fault, int token) {
-            least = Math.min(least, text.faultAt(fault, token));
+            least = Math.min(least, fault + 16 * text.placeAt(token));
         }
 
         private void settle() {
             if (least != CLEAN) {
-                text.fail(least);
+                text.fault = least;
+                throw new IllegalStateException("the names are at fault");
             }
         }
 
@@ -803,7 +769,7 @@ public final class JinjaTongue {
         private void judgeMembers(Decl decl) {
             for (int i = 0; i < decl.fields.size(); i++) {
                 for (int j = 0; j < i; j++) {
-                    if (nameOf(decl.fields.get(i)) == nameOf(decl.fields.get(j))) {
+                    if (decl.fields.get(i).name == decl.fields.get(j).name) {
                         report(TWICE, decl.fields.get(i).token);
                     }
                 }
@@ -849,6 +815,20 @@ public final class JinjaTongue {
             }
         }
 
+        private void resolveTypes() {
+            for (int token = 0; token < text.size; token++) {
+                int type = VOID;
+                if (text.roleAt(token) != Text.NO_TYPE) {
+                    type = find(text.valueAt(token));
+                } else if (text.kindAt(token) == Text.INT || text.kindAt(token) == Text.BOOLEAN) {
+                    type = text.kindAt(token) == Text.INT ? INT : BOOLEAN;
+                }
+                boolean isArray = text.kindAt(token + 1) == Text.OPEN_INDEX
+                    && text.kindAt(token + 2) == Text.CLOSE_INDEX;
+                text.giveType(token, isArray && type != VOID ? ARRAY + type : type);
+            }
+        }
+
         private void link() {
             for (int k = 1; k < size; k++) {
                 Decl decl = decls[k];
@@ -875,25 +855,31 @@ public final class JinjaTongue {
         private void thirdRound() {
             for (int k = BUILT_IN; k < size; k++) {
                 Decl decl = decls[k];
-                for (int i = 0; i < decl.fields.size() && decl.parent != null; i++) {
-                    if (fieldOf(decl.parent, nameOf(decl.fields.get(i))) != null) {
-                        report(TWICE, decl.fields.get(i).token);
-                    }
-                }
                 for (int upper = 0; upper < size; upper++) {
                     if (isAbove(upper, k)) {
-                        judgeFromAbove(decl, decls[upper]);
+                        judgeFields(decl, decls[upper]);
+                        judgeMethods(decl, decls[upper]);
                     }
                 }
             }
             Decl main = decl(find(Text.MAIN_CLASS));
-            Method begin = main == null || main.isInterface ? null : methodOf(main, Text.MAIN_METHOD);
-            if (begin == null || typeAt(begin.first) != INT || begin.parameters.size() != 0) {
+            Method begin = main == null || main.isInterface ? null : main.nearest(Text.MAIN_METHOD);
+            if (begin == null || text.typeAt(begin.first) != INT || begin.parameters.size() != 0) {
                 report(NO_MAIN, text.size);
             }
         }
 
-        private void judgeFromAbove(Decl decl, Decl upper) {
+        private void judgeFields(Decl decl, Decl upper) {
+            for (int i = 0; i < decl.fields.size(); i++) {
+                for (int j = 0; j < upper.fields.size(); j++) {
+                    if (decl.fields.get(i).name == upper.fields.get(j).name) {
+                        report(TWICE, decl.fields.get(i).token);
+                    }
+                }
+            }
+        }
+
+        private void judgeMethods(Decl decl, Decl upper) {
             for (int i = 0; i < upper.methods.size(); i++) {
                 Method method = upper.methods.get(i);
                 Method own = decl.own(method.name);
@@ -907,13 +893,23 @@ public final class JinjaTongue {
             }
         }
 
+        private Method firstFromAbove(Decl decl, int name) {
+            for (int k = 0; k < size; k++) {
+                Method method = isAbove(k, decl.number) ? decls[k].own(name) : null;
+                if (method != null) {
+                    return method;
+                }
+            }
+            return null;
+        }
+
         private boolean haveOneSignature(Method one, Method other) {
-            if (other == null || typeAt(one.first) != typeAt(other.first)
+            if (other == null || text.typeAt(one.first) != text.typeAt(other.first)
                 || one.parameters.size() != other.parameters.size()) {
                 return false;
             }
             for (int i = 0; i < one.parameters.size(); i++) {
-                if (typeAt(one.parameters.get(i).first) != typeAt(other.parameters.get(i).first)) {
+                if (text.typeAt(one.parameters.get(i).first) != text.typeAt(other.parameters.get(i).first)) {
                     return false;
                 }
             }
@@ -923,14 +919,34 @@ public final class JinjaTongue {
         private void layOut() {
             for (int k = 0; k < size; k++) {
                 Decl decl = decls[k];
-                for (Decl upper = decl.parent; upper != null; upper = upper.parent) {
-                    decl.fieldsAbove += upper.fields.size();
-                }
-                for (int i = 0; i < decl.fields.size(); i++) {
-                    decl.fields.get(i).slot = decl.fieldsAbove + i;
+                layFields(decl);
+                learnMethods(decl, decl);
+                for (int upper = 0; upper < size; upper++) {
+                    if (isAbove(upper, k)) {
+                        learnMethods(decl, decls[upper]);
+                    }
                 }
                 for (int i = 0; i < decl.methods.size(); i++) {
-                    decl.methods.get(i).result = typeAt(decl.methods.get(i).first);
+                    decl.methods.get(i).result = text.typeAt(decl.methods.get(i).first);
+                }
+            }
+        }
+
+        private void layFields(Decl decl) {
+            for (Decl holder = decl; holder != null; holder = holder.parent) {
+                for (int i = holder.fields.size() - 1; i >= 0; i--) {
+                    decl.layout.add(0, holder.fields.get(i));
+                }
+            }
+            for (int i = 0; i < decl.layout.size(); i++) {
+                decl.layout.get(i).slot = i;
+            }
+        }
+
+        private void learnMethods(Decl decl, Decl holder) {
+            for (int i = 0; i < holder.methods.size(); i++) {
+                if (decl.methodOf(holder.methods.get(i).name) == null) {
+                    decl.known.add(holder.methods.get(i));
                 }
             }
         }
@@ -963,7 +979,15 @@ public final class JinjaTongue {
             depth = 0;
             signs = 0;
             for (int n = 0; n < text.size && at < text.size; n++) {
-                declaration();
+                Decl decl = declaration();
+                for (int m = 0; m < text.size && !sees(Text.CLOSE_BRACE); m++) {
+                    if (decl.isInterface) {
+                        told(decl);
+                    } else {
+                        member(decl);
+                    }
+                }
+                take(Text.CLOSE_BRACE);
             }
         }
 
@@ -973,10 +997,14 @@ public final class JinjaTongue {
             return text.kindAt(at) == kind;
         }
 
+        private void refuse() {
+            text.fail(Text.SYNTAX, at);
+        }
+
         /** Goes past a token that must be of this kind: its number. */
         private int take(int kind) {
             if (text.kindAt(at) != kind) {
-                text.fail(text.faultAt(Text.SYNTAX, at));
+                text.fail(Text.SYNTAX, at);
             }
             at++;
             return at - 1;
@@ -990,33 +1018,75 @@ public final class JinjaTongue {
             return true;
         }
 
-        private void refuse() {
-            text.fail(text.faultAt(Text.SYNTAX, at));
-        }
-
-        private void limit(int count, int most, int token) {
-            if (count > most) {
-                text.fail(text.faultAt(Text.LIMIT, token));
+        /** Goes past a TYPE, or a SORT alone: its first token. */
+        private int takeType(boolean mayBeArray) {
+            int kind = text.kindAt(at);
+            if (kind == Text.NAME) {
+                text.giveRole(at, Text.ANY_TYPE);
+            } else if (kind != Text.INT && kind != Text.BOOLEAN) {
+                text.fail(Text.SYNTAX, at);
             }
+            int first = at;
+            at++;
+            if (mayBeArray && text.kindAt(at) == Text.OPEN_INDEX) {
+                if (text.kindAt(at + 1) != Text.CLOSE_INDEX) {
+                    text.fail(Text.SYNTAX, at + 1);
+                }
+                at += 2;
+            }
+            return first;
         }
 
+        /** Begins one more within the others. */
         private void enter() {
             depth++;
-            limit(depth, DEEPEST, at);
+            if (depth > DEEPEST) {
+                text.fail(Text.LIMIT, at);
+            }
         }
 
         private void leave() {
             depth--;
         }
 
+        private void openBracket(int kind) {
+            if (text.kindAt(at) != kind) {
+                text.fail(Text.SYNTAX, at);
+            }
+            depth++;
+            if (depth > DEEPEST) {
+                text.fail(Text.LIMIT, at);
+            }
+            at++;
+        }
+
+        private int closeBracket(int kind) {
+            if (text.kindAt(at) != kind) {
+                text.fail(Text.SYNTAX, at);
+            }
+            depth--;
+            at++;
+            return at - 1;
+        }
+
+        private void countSign() {
+            signs++;
+            if (signs > MOST_SIGNS) {
+                text.fail(Text.LIMIT, at);
+            }
+        }
+
         // ---- declarations
 
-        private void declaration() {
+        /** A class's or interface's head, up to its members. */
+        private Decl declaration() {
             boolean isInterface = sees(Text.INTERFACE);
             if (!isInterface && !sees(Text.CLASS)) {
                 refuse();
             }
-            limit(program.size + 1, Program.BUILT_IN + Program.MOST_DECLS, at);
+            if (program.isFull()) {
+                text.fail(Text.LIMIT, at);
+            }
             at++;
             Decl decl = program.addDecl(take(Text.NAME), isInterface);
             if (!isInterface && takeIf(Text.EXTENDS)) {
@@ -1026,14 +1096,7 @@ public final class JinjaTongue {
                 listInterfaces(decl);
             }
             take(Text.OPEN_BRACE);
-            for (int n = 0; n < text.size && !sees(Text.CLOSE_BRACE); n++) {
-                if (isInterface) {
-                    told(decl);
-                } else {
-                    member(decl);
-                }
-            }
-            take(Text.CLOSE_BRACE);
+            return decl;
         }
 
         private void listInterfaces(Decl decl) {
@@ -1048,7 +1111,6 @@ public final class JinjaTongue {
         private void told(Decl decl) {
             int first = takeResult();
             int name = take(Text.NAME);
-            limit(decl.methods.size() + 1, MOST_METHODS, name);
             head(decl, first, name);
             take(Text.SEMICOLON);
         }
@@ -1058,7 +1120,6 @@ public final class JinjaTongue {
             int first = takeResult();
             int name = take(Text.NAME);
             if (sees(Text.OPEN)) {
-                limit(decl.methods.size() + 1, MOST_METHODS, name);
                 Method method = head(decl, first, name);
                 method.number = program.methods.size();
                 program.methods.add(method);
@@ -1074,55 +1135,43 @@ public final class JinjaTongue {
             }
         }
 
-        private void addField(Decl decl, int first, int name) {
-            limit(decl.fields.size() + 1, MOST_FIELDS, name);
-            decl.fields.add(new Node(Node.VARIABLE, name, first));
+        private int takeResult() {
+            return sees(Text.VOID) ? take(Text.VOID) : takeType(true);
         }
 
-        /** A method's head from its parameters on. */
+        private void addField(Decl decl, int first, int name) {
+            if (decl.fields.size() >= MOST_FIELDS) {
+                text.fail(Text.LIMIT, name);
+            }
+            decl.fields.add(variable(first, name));
+        }
+
+        private Node variable(int first, int name) {
+            Node variable = new Node(Node.VARIABLE, name, first);
+            variable.name = text.valueAt(name);
+            return variable;
+        }
+
+        /** A method's head from its NAME, which has been read, on. */
         private Method head(Decl decl, int first, int name) {
+            if (decl.methods.size() >= MOST_METHODS) {
+                text.fail(Text.LIMIT, name);
+            }
             Method method = new Method(decl, text.valueAt(name), name, first);
             decl.methods.add(method);
             take(Text.OPEN);
             boolean more = !sees(Text.CLOSE);
             for (int n = 0; n < text.size && more; n++) {
-                if (beginsType()) {
-                    limit(method.parameters.size() + 1, MOST_PARAMETERS, at);
+                boolean beginsType = sees(Text.INT) || sees(Text.BOOLEAN) || sees(Text.NAME);
+                if (beginsType && method.parameters.size() >= MOST_PARAMETERS) {
+                    text.fail(Text.LIMIT, at);
                 }
-                int typed = takeType();
-                method.parameters.add(new Node(Node.VARIABLE, take(Text.NAME), typed));
+                int typed = takeType(true);
+                method.parameters.add(variable(typed, take(Text.NAME)));
                 more = takeIf(Text.COMMA);
             }
             take(Text.CLOSE);
             return method;
-        }
-
-        private int takeResult() {
-            return takeIf(Text.VOID) ? at - 1 : takeType();
-        }
-
-        private boolean beginsType() {
-            return sees(Text.INT) || sees(Text.BOOLEAN) || sees(Text.NAME);
-        }
-
-        /** Goes past a TYPE: its first token. */
-        private int takeType() {
-            int first = takeSort();
-            if (takeIf(Text.OPEN_INDEX)) {
-                take(Text.CLOSE_INDEX);
-            }
-            return first;
-        }
-
-        private int takeSort() {
-            if (!beginsType()) {
-                refuse();
-            }
-            if (sees(Text.NAME)) {
-                text.giveRole(at, Text.ANY_TYPE);
-            }
-            at++;
-            return at - 1;
         }
 
         // ---- statements
@@ -1153,7 +1202,7 @@ public final class JinjaTongue {
             enter();
             int outerSigns = signs;
             signs = 0;
-            Node statement = isLocal ? local() : statementBy(text.kindAt(at));
+            Node statement = isLocal ? local(true) : statementBy(text.kindAt(at));
             signs = outerSigns;
             leave();
             return statement;
@@ -1204,13 +1253,17 @@ public final class JinjaTongue {
             }
         }
 
-        private Node local() {
-            int first = takeType();
+        /** A LOCAL, or as FIRST what has a value always and no semicolon. */
+        private Node local(boolean isStatement) {
+            int first = takeType(true);
             Node local = new Node(Node.LOCAL, take(Text.NAME), first);
-            if (takeIf(Text.ASSIGN)) {
+            if (!isStatement || sees(Text.ASSIGN)) {
+                take(Text.ASSIGN);
                 local.a = expression();
             }
-            take(Text.SEMICOLON);
+            if (isStatement) {
+                take(Text.SEMICOLON);
+            }
             return local;
         }
 
@@ -1305,7 +1358,7 @@ public final class JinjaTongue {
             at++;
             take(Text.OPEN);
             if (!sees(Text.SEMICOLON)) {
-                statement.a = first();
+                statement.a = beginsLocal() ? local(false) : simple(false);
             }
             take(Text.SEMICOLON);
             if (!sees(Text.SEMICOLON)) {
@@ -1318,17 +1371,6 @@ public final class JinjaTongue {
             take(Text.CLOSE);
             statement.d = statement(false);
             return statement;
-        }
-
-        private Node first() {
-            if (!beginsLocal()) {
-                return simple(false);
-            }
-            int typed = takeType();
-            Node local = new Node(Node.LOCAL, take(Text.NAME), typed);
-            take(Text.ASSIGN);
-            local.a = expression();
-            return local;
         }
 
         private Node tryStatement() {
@@ -1368,7 +1410,9 @@ public final class JinjaTongue {
         private Node printStatement() {
             Node statement = new Node(Node.PRINT, at, at);
             at++;
-            statement.a = condition();
+            take(Text.OPEN);
+            statement.a = expression();
+            take(Text.CLOSE);
             take(Text.SEMICOLON);
             return statement;
         }
@@ -1429,11 +1473,6 @@ public final class JinjaTongue {
             }
         }
 
-        private void countSign() {
-            signs++;
-            limit(signs, MOST_SIGNS, at);
-        }
-
         /** Operands with signs between that bind at least so strongly. */
         private Node signed(int least) {
             Node left = prefixed();
@@ -1442,13 +1481,11 @@ public final class JinjaTongue {
             int most = STRONGEST;
             for (int n = 0; n < text.size && power >= least && power <= most; n++) {
                 countSign();
-                int sign = at;
-                boolean isCheck = sees(Text.IS) || sees(Text.AS);
+                Node node = new Node(signNode(text.kindAt(at)), at, left.first);
                 at++;
-                Node node = new Node(isCheck ? Node.CHECK : Node.SIGN, sign, left.first);
                 node.a = left;
-                if (isCheck) {
-                    takeType();
+                if (node.kind == Node.CHECK) {
+                    takeType(true);
                 } else {
                     node.b = signed(power + 1);
                 }
@@ -1459,12 +1496,19 @@ public final class JinjaTongue {
             return left;
         }
 
+        private static int signNode(int kind) {
+            if (kind == Text.IS || kind == Text.AS) {
+                return Node.CHECK;
+            }
+            return kind == Text.BOTH || kind == Text.EITHER ? Node.SHORT : Node.SIGN;
+        }
+
         private Node prefixed() {
             if (!sees(Text.MINUS) && !sees(Text.INVERT) && !sees(Text.NOT)) {
                 return chain();
             }
             enter();
-            Node node = new Node(Node.PREFIX, at, at);
+            Node node = new Node(sees(Text.NOT) ? Node.NOT : Node.PREFIX, at, at);
             at++;
             node.a = prefixed();
             leave();
@@ -1501,30 +1545,14 @@ public final class JinjaTongue {
         }
 
         private Node bracketed(int open, int close) {
-            enter();
-            take(open);
+            openBracket(open);
             Node inner = expression();
-            take(close);
-            leave();
+            closeBracket(close);
             return inner;
         }
 
-        private void emptyBrackets() {
-            if (!sees(Text.OPEN)) {
-                refuse();
-            }
-            enter();
-            take(Text.OPEN);
-            take(Text.CLOSE);
-            leave();
-        }
-
         private void arguments(Node call) {
-            if (!sees(Text.OPEN)) {
-                refuse();
-            }
-            enter();
-            take(Text.OPEN);
+            openBracket(Text.OPEN);
             Node last = null;
             boolean more = !sees(Text.CLOSE);
             for (int n = 0; n < text.size && more; n++) {
@@ -1537,8 +1565,7 @@ public final class JinjaTongue {
                 last = argument;
                 more = takeIf(Text.COMMA);
             }
-            call.end = take(Text.CLOSE);
-            leave();
+            call.end = closeBracket(Text.CLOSE);
         }
 
         private Node operand() {
@@ -1565,7 +1592,8 @@ public final class JinjaTongue {
                     return group;
                 case Text.READ:
                     Node number = leaf(Node.READ);
-                    emptyBrackets();
+                    openBracket(Text.OPEN);
+                    closeBracket(Text.CLOSE);
                     return number;
                 default:
                     refuse();
@@ -1597,14 +1625,12 @@ public final class JinjaTongue {
 
         private Node made() {
             int first = take(Text.NEW);
-            int name = takeSort();
+            int name = takeType(false);
             if (text.kindAt(name) == Text.NAME && sees(Text.OPEN)) {
                 text.giveRole(name, Text.NEW_OBJECT);
-                emptyBrackets();
+                openBracket(Text.OPEN);
+                closeBracket(Text.CLOSE);
                 return new Node(Node.OBJECT, name, first);
-            }
-            if (!sees(Text.OPEN_INDEX)) {
-                refuse();
             }
             Node array = new Node(Node.ARRAY, name, first);
             array.a = bracketed(Text.OPEN_INDEX, Text.CLOSE_INDEX);
@@ -1670,12 +1696,17 @@ public final class JinjaTongue {
             for (int k = 0; k < program.size; k++) {
                 Decl decl = program.decl(k);
                 for (int i = 0; decl != null && i < decl.methods.size(); i++) {
-                    judgeMethod(decl.methods.get(i));
+                    beginMethod(decl.methods.get(i));
+                    if (method.body != null) {
+                        block(method.body);
+                        endMethod();
+                    }
                 }
             }
         }
 
-        private void judgeMethod(Method judged) {
+        /** Looks at the PARAMETERS; also of methods that interfaces tell. */
+        private void beginMethod(Method judged) {
             method = judged;
             loop = null;
             lasts = 0;
@@ -1686,23 +1717,18 @@ public final class JinjaTongue {
             method.firstRegion = code.regions;
             for (int i = 0; i < method.parameters.size(); i++) {
                 Node parameter = method.parameters.get(i);
-                int variable = declare(parameter.token, program.typeAt(parameter.first));
+                int variable = declare(parameter.token, text.typeAt(parameter.first));
                 assigned |= 1 << variable;
             }
-            if (method.body == null) {
-                return;
-            }
-            block(method.body);
+        }
+
+        private void endMethod() {
             if (method.result != Program.VOID && assigned != EVERYTHING) {
-                fail(NO_END, method.body.end);
+                text.fail(NO_END, method.body.end);
             }
             code.emit(method.result == Program.VOID ? Code.RETURN : Code.REFUSE, 0, 0);
             method.slots = code.deepest;
             method.regionsEnd = code.regions;
-        }
-
-        private void fail(int fault, int token) {
-            text.fail(text.faultAt(fault, token));
         }
 
         // ---- variables
@@ -1711,7 +1737,7 @@ public final class JinjaTongue {
         private int declare(int token, int type) {
             int name = text.valueAt(token);
             if (variables >= MOST_VARIABLES || variable(name) != NONE) {
-                fail(SCOPE, token);
+                text.fail(SCOPE, token);
                 return 0;
             }
             names[variables] = name;
@@ -1746,13 +1772,14 @@ public final class JinjaTongue {
             int outerVariables = variables;
             int outerHeld = code.held;
             for (Node part = block.a; part != null; part = part.next) {
-                statement(part);
+                statement(part, true);
             }
             endScope(outerVariables, outerHeld);
         }
 
-        private void statement(Node statement) {
-            if (statement.kind != Node.BLOCK && statement.kind != Node.EMPTY) {
+        /** FIRST and NEXT take no FUEL of their own. */
+        private void statement(Node statement, boolean takesFuel) {
+            if (takesFuel && statement.kind != Node.BLOCK && statement.kind != Node.EMPTY) {
                 code.emit(Code.FUEL, 0, 0);
             }
             switch (statement.kind) {
@@ -1779,25 +1806,15 @@ public final class JinjaTongue {
                 case Node.TRY:
                     tryStatement(statement);
                     break;
-                case Node.PRINT:
-                    fit(statement.a, Program.INT);
-                    code.emit(Code.PRINT, 0, 0);
-                    break;
-                default:
-                    simple(statement);
-                    break;
-            }
-        }
-
-        /** What may stand as FIRST and NEXT, too, where it takes no FUEL of its own. */
-        private void simple(Node statement) {
-            switch (statement.kind) {
                 case Node.LOCAL:
                     local(statement);
                     break;
                 case Node.ASSIGN:
-                    fit(statement.b, place(statement.a));
-                    store(statement.a);
+                    assign(statement.a, statement.b);
+                    break;
+                case Node.PRINT:
+                    fit(statement.a, value(statement.a), Program.INT);
+                    code.emit(Code.PRINT, 0, 0);
                     break;
                 case Node.DO:
                     if (value(statement.a) != Program.VOID) {
@@ -1810,48 +1827,46 @@ public final class JinjaTongue {
         }
 
         private void local(Node local) {
-            int type = program.typeAt(local.first);
+            int type = text.typeAt(local.first);
             int variable = declare(local.token, type);
             int slot = slots[variable];
             // What an earlier variable left in the slot is not held any more.
             code.emit(Code.CLEAR, slot, 0);
             if (local.a != null) {
-                fit(local.a, type);
+                fit(local.a, value(local.a), type);
                 code.emit(Code.STORE, slot, 0);
                 assigned |= 1 << variable;
             }
         }
 
-        /** Judges a PLACE and has what it needs worked out: its type. */
-        private int place(Node place) {
-            if (place.kind == Node.INDEX) {
-                return element(place);
-            }
-            if (place.kind == Node.FIELD) {
-                return fieldBehind(place);
-            }
-            int variable = variable(text.valueAt(place.token));
-            return variable == NONE ? ownField(place) : types[variable];
-        }
-
-        private void store(Node place) {
+        private void assign(Node place, Node e) {
             int variable = place.kind == Node.NAME ? variable(text.valueAt(place.token)) : NONE;
             if (variable != NONE) {
+                fit(e, value(e), types[variable]);
                 code.emit(Code.STORE, slots[variable], 0);
                 assigned |= 1 << variable;
             } else if (place.kind == Node.INDEX) {
+                int type = element(place);
+                fit(e, value(e), type);
                 code.emit(Code.PUT_ELEMENT, 0, 0);
             } else {
+                int type = place.kind == Node.NAME ? ownField(place) : fieldBehind(place);
+                fit(e, value(e), type);
                 code.emit(Code.PUT_FIELD, place.slot, 0);
             }
         }
 
+        private int ownField(Node e) {
+            code.emit(Code.LOAD, 0, 0);
+            return fieldType(method.owner, e);
+        }
+
         private void ifStatement(Node statement) {
-            fit(statement.a, Program.BOOLEAN);
+            fit(statement.a, value(statement.a), Program.BOOLEAN);
             int otherwise = whenFalse;
             assigned = whenTrue;
             int skip = code.jump(Code.JUMP_FALSE, NONE, 0);
-            statement(statement.b);
+            statement(statement.b, true);
             if (statement.c == null) {
                 code.land(skip);
                 assigned &= otherwise;
@@ -1861,7 +1876,7 @@ public final class JinjaTongue {
             code.land(skip);
             int then = assigned;
             assigned = otherwise;
-            statement(statement.c);
+            statement(statement.c, true);
             code.land(end);
             assigned &= then;
         }
@@ -1870,7 +1885,7 @@ public final class JinjaTongue {
             int outerVariables = variables;
             int outerHeld = code.held;
             if (statement.a != null) {
-                simple(statement.a);
+                statement(statement.a, false);
             }
             int start = code.size;
             code.emit(Code.FUEL, 0, 0);
@@ -1878,11 +1893,11 @@ public final class JinjaTongue {
             int end = whenFalse;
             assigned = whenTrue;
             loop = new Loop(loop, lasts);
-            statement(statement.d);
+            statement(statement.d, true);
             code.land(loop.continues);
             if (statement.c != null) {
                 assigned &= loop.continueState;
-                simple(statement.c);
+                statement(statement.c, false);
             }
             code.emit(Code.JUMP, start, 0);
             code.land(exit);
@@ -1899,15 +1914,15 @@ public final class JinjaTongue {
                 whenFalse = EVERYTHING;
                 return NONE;
             }
-            fit(condition, Program.BOOLEAN);
+            fit(condition, value(condition), Program.BOOLEAN);
             return code.jump(Code.JUMP_FALSE, NONE, 0);
         }
 
         private void returnStatement(Node statement) {
             if (statement.a != null) {
-                fit(statement.a, method.result);
+                fit(statement.a, value(statement.a), method.result);
             } else if (method.result != Program.VOID) {
-                fail(TYPE, statement.token);
+                text.fail(TYPE, statement.token);
             }
             code.emit(statement.a == null ? Code.RETURN : Code.RETURN_VALUE, 0, 0);
             assigned = EVERYTHING;
@@ -1915,7 +1930,7 @@ public final class JinjaTongue {
 
         private void jumpStatement(Node statement) {
             if (loop == null) {
-                fail(SCOPE, statement.token);
+                text.fail(SCOPE, statement.token);
                 return;
             }
             int operation = lasts > loop.lasts ? Code.LEAVE : Code.JUMP;
@@ -1932,7 +1947,7 @@ public final class JinjaTongue {
         private void throwStatement(Node statement) {
             Decl decl = program.decl(value(statement.a));
             if (decl == null || decl.isInterface) {
-                fail(TYPE, statement.a.first);
+                text.fail(TYPE, statement.a.first);
             }
             code.emit(Code.THROW, 0, 0);
             assigned = EVERYTHING;
@@ -1950,7 +1965,7 @@ public final class JinjaTongue {
             int ways = code.jump(onward, NONE, slot);
             int state = assigned;
             for (Node handler = statement.b; handler != null; handler = handler.next) {
-                code.addRegion(start, end, program.sortAt(handler.first), slot);
+                code.addRegion(start, end, text.typeAt(handler.first), slot);
                 assigned = began;
                 catchBlock(handler);
                 ways = code.jump(onward, ways, slot);
@@ -1970,7 +1985,7 @@ public final class JinjaTongue {
         private void catchBlock(Node handler) {
             int outerVariables = variables;
             int outerHeld = code.held;
-            int variable = declare(handler.token, program.sortAt(handler.first));
+            int variable = declare(handler.token, text.typeAt(handler.first));
             assigned |= 1 << variable;
             block(handler.a);
             endScope(outerVariables, outerHeld);
@@ -1986,42 +2001,76 @@ public final class JinjaTongue {
 
         // ---- E's
 
-        private void fit(Node e, int wanted) {
-            if (!program.fits(value(e), wanted)) {
-                fail(TYPE, e.first);
+        /** An E that has been judged is of this type, and must fit. */
+        private void fit(Node e, int type, int wanted) {
+            if (!program.fits(type, wanted)) {
+                text.fail(TYPE, e.first);
             }
         }
 
         /** Judges an E and has it worked out: its type, and in whenTrue, whenFalse what is assigned behind it. */
         private int value(Node e) {
+            int type;
             switch (e.kind) {
                 case Node.GROUP:
                     return value(e.a);
                 case Node.TRUE:
                 case Node.FALSE:
                     return truth(e.kind == Node.TRUE);
-                case Node.PREFIX:
-                    return prefix(e);
-                case Node.SIGN:
-                    return sign(e);
+                case Node.NOT:
+                    return negation(e);
+                case Node.SHORT:
+                    return shortened(e, text.kindAt(e.token) == Text.BOTH);
                 case Node.CHOICE:
                     return choice(e);
+                case Node.PREFIX:
+                    type = prefix(e);
+                    break;
+                case Node.SIGN:
+                    type = sign(e, text.kindAt(e.token));
+                    break;
+                case Node.CHECK:
+                    type = check(e);
+                    break;
+                case Node.FIELD:
+                    type = fieldBehind(e);
+                    code.emit(Code.GET_FIELD, e.slot, 0);
+                    break;
+                case Node.INDEX:
+                    type = element(e);
+                    code.emit(Code.GET_ELEMENT, 0, 0);
+                    break;
+                case Node.LENGTH:
+                    type = length(e);
+                    break;
+                case Node.CALL:
+                    type = call(e);
+                    break;
+                case Node.SUPER:
+                    type = superCall(e);
+                    break;
+                case Node.ARRAY:
+                    type = newArray(e);
+                    break;
+                case Node.NAME:
+                    type = variableValue(e);
+                    break;
                 default:
-                    int type = plain(e);
-                    whenTrue = assigned;
-                    whenFalse = assigned;
-                    return type;
+                    type = single(e);
+                    break;
             }
+            whenTrue = assigned;
+            whenFalse = assigned;
+            return type;
         }
 
-        private int truth(boolean isTrue) {
-            code.emit(Code.CONSTANT, isTrue ? 1 : 0, 0);
-            whenTrue = isTrue ? assigned : EVERYTHING;
-            whenFalse = isTrue ? EVERYTHING : assigned;
-            return Program.BOOLEAN;
+        private int give(int operation, int operand, int type) {
+            code.emit(operation, operand, 0);
+            return type;
         }
 
-        private int plain(Node e) {
+        /** An OPERAND without parts, and no NAME. */
+        private int single(Node e) {
             switch (e.kind) {
                 case Node.NUMBER:
                     return give(Code.CONSTANT, text.valueAt(e.token), Program.INT);
@@ -2031,86 +2080,67 @@ public final class JinjaTongue {
                     return give(Code.LOAD, 0, method.owner.number);
                 case Node.READ:
                     return give(Code.READ, 0, Program.INT);
-                case Node.NAME:
-                    return variableValue(e);
                 case Node.OBJECT:
-                    return give(Code.MAKE_OBJECT, program.sortAt(e.token), program.sortAt(e.token));
-                case Node.ARRAY:
-                    fit(e.a, Program.INT);
-                    int type = Program.ARRAY + program.sortAt(e.token);
-                    return give(Code.MAKE_ARRAY, type, type);
-                case Node.CALL:
-                    return call(e);
-                case Node.SUPER:
-                    return superCall(e);
-                case Node.FIELD:
-                    int fieldType = fieldBehind(e);
-                    return give(Code.GET_FIELD, e.slot, fieldType);
-                case Node.LENGTH:
-                    arrayAhead(e);
-                    return give(Code.LENGTH, 0, Program.INT);
-                case Node.INDEX:
-                    return give(Code.GET_ELEMENT, 0, element(e));
-                case Node.CHECK:
-                    return check(e);
+                    return give(Code.MAKE_OBJECT, text.typeAt(e.token), text.typeAt(e.token));
                 default:
                     return Program.VOID;
             }
         }
 
-        private int give(int operation, int operand, int type) {
-            code.emit(operation, operand, 0);
-            return type;
-        }
-
         private int variableValue(Node e) {
             int variable = variable(text.valueAt(e.token));
             if (variable == NONE) {
-                int type = ownField(e);
+                code.emit(Code.LOAD, 0, 0);
+                int type = fieldType(method.owner, e);
                 return give(Code.GET_FIELD, e.slot, type);
             }
             if ((assigned >>> variable & 1) == 0) {
-                fail(UNASSIGNED, e.token);
+                text.fail(UNASSIGNED, e.token);
             }
             return give(Code.LOAD, slots[variable], types[variable]);
-        }
-
-        private int ownField(Node e) {
-            code.emit(Code.LOAD, 0, 0);
-            return fieldType(method.owner, e);
         }
 
         private int fieldBehind(Node e) {
             Decl decl = program.decl(value(e.a));
             if (decl == null || decl.isInterface) {
-                fail(TYPE, e.a.first);
+                text.fail(TYPE, e.a.first);
             }
             return fieldType(decl, e);
         }
 
         private int fieldType(Decl decl, Node e) {
-            Node field = decl == null ? null : program.fieldOf(decl, text.valueAt(e.token));
+            Node field = decl == null ? null : decl.fieldOf(text.valueAt(e.token));
             if (field == null) {
-                fail(NOT_KNOWN, e.token);
+                text.fail(NOT_KNOWN, e.token);
                 return Program.VOID;
             }
             e.slot = field.slot;
-            return program.typeAt(field.first);
+            return text.typeAt(field.first);
         }
 
-        /** The type of the elements of the array ahead. */
-        private int arrayAhead(Node e) {
-            int type = value(e.a);
+        /** The type of an array's elements. */
+        private int elementType(Node array, int type) {
             if (type < Program.ARRAY) {
-                fail(TYPE, e.a.first);
+                text.fail(TYPE, array.first);
             }
             return type - Program.ARRAY;
         }
 
         private int element(Node e) {
-            int type = arrayAhead(e);
-            fit(e.b, Program.INT);
+            int type = elementType(e.a, value(e.a));
+            fit(e.b, value(e.b), Program.INT);
             return type;
+        }
+
+        private int length(Node e) {
+            elementType(e.a, value(e.a));
+            return give(Code.LENGTH, 0, Program.INT);
+        }
+
+        private int newArray(Node e) {
+            fit(e.a, value(e.a), Program.INT);
+            int type = Program.ARRAY + text.typeAt(e.token);
+            return give(Code.MAKE_ARRAY, type, type);
         }
 
         private int call(Node e) {
@@ -2120,11 +2150,11 @@ public final class JinjaTongue {
             } else {
                 decl = program.decl(value(e.a));
                 if (decl == null) {
-                    fail(TYPE, e.a.first);
+                    text.fail(TYPE, e.a.first);
                 }
             }
             int name = text.valueAt(e.token);
-            return arguments(e, decl == null ? null : program.methodOf(decl, name), Code.CALL, name);
+            return arguments(e, decl == null ? null : decl.methodOf(name), Code.CALL, name);
         }
 
         private int superCall(Node e) {
@@ -2136,20 +2166,20 @@ public final class JinjaTongue {
 
         private int arguments(Node e, Method known, int operation, int target) {
             if (known == null) {
-                fail(NOT_KNOWN, e.token);
+                text.fail(NOT_KNOWN, e.token);
                 return Program.VOID;
             }
             int number = 0;
             for (Node argument = e.b; argument != null; argument = argument.next) {
                 if (number >= known.parameters.size()) {
-                    fail(ARGUMENTS, argument.first);
+                    text.fail(ARGUMENTS, argument.first);
                 } else {
-                    fit(argument, program.typeAt(known.parameters.get(number).first));
+                    fit(argument, value(argument), text.typeAt(known.parameters.get(number).first));
                 }
                 number++;
             }
             if (number < known.parameters.size()) {
-                fail(ARGUMENTS, e.end);
+                text.fail(ARGUMENTS, e.end);
             }
             code.emit(operation, target, number);
             return known.result;
@@ -2158,11 +2188,11 @@ public final class JinjaTongue {
         /** is and as; their TYPE stands right behind them. */
         private int check(Node e) {
             if (!Program.isReference(value(e.a))) {
-                fail(TYPE, e.a.first);
+                text.fail(TYPE, e.a.first);
             }
-            int type = program.typeAt(e.token + 1);
+            int type = text.typeAt(e.token + 1);
             if (!Program.isReference(type)) {
-                fail(TYPE, e.token + 1);
+                text.fail(TYPE, e.token + 1);
             }
             if (text.kindAt(e.token) == Text.IS) {
                 return give(Code.IS, type, Program.BOOLEAN);
@@ -2171,60 +2201,58 @@ public final class JinjaTongue {
         }
 
         private int prefix(Node e) {
-            int kind = text.kindAt(e.token);
-            int type = kind == Text.NOT ? Program.BOOLEAN : Program.INT;
-            fit(e.a, type);
-            code.emit(Code.PREFIX, kind, 0);
-            int turned = whenTrue;
-            whenTrue = kind == Text.NOT ? whenFalse : assigned;
-            whenFalse = kind == Text.NOT ? turned : assigned;
-            return type;
+            fit(e.a, value(e.a), Program.INT);
+            return give(Code.PREFIX, text.kindAt(e.token), Program.INT);
         }
 
-        private int sign(Node e) {
-            int kind = text.kindAt(e.token);
-            int type;
+        private int sign(Node e, int kind) {
+            int left = value(e.a);
             switch (kind) {
-                case Text.BOTH:
-                case Text.EITHER:
-                    return shortened(e, kind == Text.BOTH);
                 case Text.SAME:
                 case Text.OTHER:
-                    int left = value(e.a);
                     if (program.common(left, value(e.b)) == Program.VOID) {
-                        fail(TYPE, e.token);
+                        text.fail(TYPE, e.token);
                     }
-                    type = Program.BOOLEAN;
-                    break;
+                    return give(Code.SIGN, kind, Program.BOOLEAN);
                 case Text.AND:
                 case Text.OR:
                 case Text.XOR:
-                    type = value(e.a);
-                    if (type != Program.INT && type != Program.BOOLEAN) {
-                        fail(TYPE, e.a.first);
+                    if (left != Program.INT && left != Program.BOOLEAN) {
+                        text.fail(TYPE, e.a.first);
                     }
-                    fit(e.b, type);
-                    break;
+                    fit(e.b, value(e.b), left);
+                    return give(Code.SIGN, kind, left);
                 default:
-                    fit(e.a, Program.INT);
-                    fit(e.b, Program.INT);
+                    fit(e.a, left, Program.INT);
+                    fit(e.b, value(e.b), Program.INT);
                     boolean compares = kind >= Text.LESS && kind <= Text.MORE_SAME;
-                    type = compares ? Program.BOOLEAN : Program.INT;
-                    break;
+                    return give(Code.SIGN, kind, compares ? Program.BOOLEAN : Program.INT);
             }
-            code.emit(Code.SIGN, kind, 0);
-            whenTrue = assigned;
-            whenFalse = assigned;
-            return type;
+        }
+
+        // ---- E's of which whenTrue and whenFalse may differ
+
+        private int truth(boolean isTrue) {
+            whenTrue = isTrue ? assigned : EVERYTHING;
+            whenFalse = isTrue ? EVERYTHING : assigned;
+            return give(Code.CONSTANT, isTrue ? 1 : 0, Program.BOOLEAN);
+        }
+
+        private int negation(Node e) {
+            fit(e.a, value(e.a), Program.BOOLEAN);
+            int turned = whenTrue;
+            whenTrue = whenFalse;
+            whenFalse = turned;
+            return give(Code.PREFIX, Text.NOT, Program.BOOLEAN);
         }
 
         private int shortened(Node e, boolean isBoth) {
-            fit(e.a, Program.BOOLEAN);
+            fit(e.a, value(e.a), Program.BOOLEAN);
             int leftTrue = whenTrue;
             int leftFalse = whenFalse;
             int skip = code.jump(isBoth ? Code.SKIP_FALSE : Code.SKIP_TRUE, NONE, 0);
             assigned = isBoth ? leftTrue : leftFalse;
-            fit(e.b, Program.BOOLEAN);
+            fit(e.b, value(e.b), Program.BOOLEAN);
             code.land(skip);
             if (isBoth) {
                 whenFalse &= leftFalse;
@@ -2236,7 +2264,7 @@ public final class JinjaTongue {
         }
 
         private int choice(Node e) {
-            fit(e.a, Program.BOOLEAN);
+            fit(e.a, value(e.a), Program.BOOLEAN);
             int otherwise = whenFalse;
             assigned = whenTrue;
             int skip = code.jump(Code.JUMP_FALSE, NONE, 0);
@@ -2248,7 +2276,7 @@ public final class JinjaTongue {
             assigned = otherwise;
             int type = program.common(left, value(e.c));
             if (type == Program.VOID) {
-                fail(TYPE, e.token);
+                text.fail(TYPE, e.token);
             }
             code.land(end);
             whenTrue &= leftTrue;
@@ -2265,7 +2293,7 @@ public final class JinjaTongue {
         static final int SKIP_FALSE = 8, SKIP_TRUE = 9;
         static final int SIGN = 10, PREFIX = 11, READ = 12, PRINT = 13, IS = 14, AS = 15, LENGTH = 16, GET_FIELD = 17;
         static final int PUT_FIELD = 18, GET_ELEMENT = 19, PUT_ELEMENT = 20, MAKE_OBJECT = 21, MAKE_ARRAY = 22;
-        static final int CALL = 23, CALL_SUPER = 24, RETURN = 25, RETURN_VALUE = 26, THROW = 27;
+        static final int CALL = 23, CALL_SUPER = 24, THROW = 25, RETURN = 26, RETURN_VALUE = 27;
         // A jump out of tries that have LASTS; the way into a LAST, and out of it.
         static final int LEAVE = 28, ENTER_LAST = 29, END_LAST = 30;
         // Stands where no run comes.
@@ -2392,44 +2420,41 @@ public final class JinjaTongue {
     }
 
     /**
-     * Objects and arrays, cell by cell as the document counts them: an object's class and fields, an array's type,
-     * length and elements. What is reachable moves to the other space when there is no room in the one.
+     * Objects and arrays, as many cells as the document counts: the first one has the thing's type and how many there
+     * are, behind it are an object's fields, and, one cell further on, an array's elements. What is reachable moves to
+     * the other space when there is no room in the one.
      */
     static final class Heap {
         /** Tells a reference from a number; null is 0. */
         static final long REFERENCE = 1L << 32;
         /** Ahead of it are the exceptions that a run makes, each at its class's number in both spaces. */
         private static final int FIRST = Program.BUILT_IN + 1;
+        private static final int TYPE_BITS = 8;
+        private static final int TYPE_MASK = (1 << TYPE_BITS) - 1;
 
         private long[] space;
         private long[] other;
         private int top;
         private int otherTop;
         private int limit;
-        private Program program;
 
         Heap() {
             space = new long[FIRST + MOST_CELLS];
             other = new long[FIRST + MOST_CELLS];
             for (int k = 0; k < Program.BUILT_IN; k++) {
-                space[k] = k;
-                other[k] = k;
+                space[k] = 1 << TYPE_BITS | k;
+                other[k] = space[k];
             }
             top = FIRST;
         }
 
-        void start(Program runs, int cells) {
+        void start(int cells) {
             top = FIRST;
-            program = runs;
             limit = FIRST + Math.min(cells, MOST_CELLS);
         }
 
         static boolean isReference(long value) {
             return (value & REFERENCE) != 0;
-        }
-
-        private static int addressOf(long reference) {
-            return (int) reference;
         }
 
         boolean hasRoom(long cells) {
@@ -2438,55 +2463,46 @@ public final class JinjaTongue {
 
         /** Only where there is room. */
         long make(int type, int cells) {
-            if (cells <= 0 || !hasRoom(cells) || top + cells > space.length) {
+            if (cells <= 0 || cells > space.length - top) {
                 return 0;
             }
             Arrays.fill(space, top, top + cells, 0L);
-            space[top] = type;
-            if (type >= Program.ARRAY && cells > 1) {
-                space[top + 1] = cells - 2;
-            }
+            space[top] = (long) cells << TYPE_BITS | type;
             top += cells;
             return REFERENCE | top - cells;
         }
 
+        /** The cell that has the type and how many there are; 0 of nothing. */
+        private long headOf(long reference) {
+            int address = (int) reference;
+            return isReference(reference) && address >= 0 && address < top ? space[address] : 0;
+        }
+
         /** The class of an object, the type of an array; VOID of nothing. */
         int typeOf(long reference) {
-            int address = addressOf(reference);
-            return isReference(reference) && address >= 0 && address < top ? (int) space[address] : Program.VOID;
+            long head = headOf(reference);
+            return head == 0 ? Program.VOID : (int) head & TYPE_MASK;
         }
 
-        int lengthOf(long array) {
-            int address = addressOf(array) + 1;
-            return typeOf(array) >= Program.ARRAY && address > 0 && address < top ? (int) space[address] : 0;
+        /** How many fields or elements it has. */
+        int partsOf(long reference) {
+            long head = headOf(reference);
+            int cells = (int) (head >> TYPE_BITS);
+            return Math.max(0, cells - aheadOf(head));
         }
 
-        /** Field i of an object, element i of an array: where it is; NONE if there is none such. */
-        private int cellOf(long reference, int i) {
-            int type = typeOf(reference);
-            if (i < 0 || type == Program.VOID || i >= partsOf(reference)) {
-                return NONE;
-            }
-            return addressOf(reference) + (type >= Program.ARRAY ? 2 : 1) + i;
-        }
-
-        private int partsOf(long reference) {
-            int type = typeOf(reference);
-            if (type >= Program.ARRAY) {
-                return lengthOf(reference);
-            }
-            Decl decl = program == null ? null : program.decl(type);
-            return decl == null ? 0 : decl.fieldCount();
+        private static int aheadOf(long head) {
+            return (head & TYPE_MASK) >= Program.ARRAY ? 2 : 1;
         }
 
         long get(long reference, int i) {
-            int cell = cellOf(reference, i);
-            return cell >= 0 && cell < top ? space[cell] : 0;
+            int cell = (int) reference + aheadOf(headOf(reference)) + i;
+            return i >= 0 && i < partsOf(reference) && cell >= 0 && cell < top ? space[cell] : 0;
         }
 
         void put(long reference, int i, long value) {
-            int cell = cellOf(reference, i);
-            if (cell >= 0 && cell < top) {
+            int cell = (int) reference + aheadOf(headOf(reference)) + i;
+            if (i >= 0 && i < partsOf(reference) && cell >= 0 && cell < top) {
                 space[cell] = value;
             }
         }
@@ -2499,16 +2515,16 @@ public final class JinjaTongue {
 
         /** What stands for the value when all is collected: of a reference the place to which its thing moves. */
         long moved(long value) {
-            int from = addressOf(value);
-            if (!isReference(value) || from < FIRST || from >= top) {
+            int from = (int) value;
+            if ((value & REFERENCE) == 0 || from < FIRST || from >= top) {
                 return value;
             }
-            // A thing that has moved has its new place, as a negative number, instead of its type.
+            // A thing that has moved has its new place, as a negative number, instead of its head.
             if (space[from] < 0) {
                 return REFERENCE | -space[from];
             }
-            int cells = partsOf(value) + (typeOf(value) >= Program.ARRAY ? 2 : 1);
-            if (otherTop + cells > other.length || from + cells > space.length) {
+            int cells = (int) (space[from] >> TYPE_BITS);
+            if (cells <= 0 || cells > top - from || cells > other.length - otherTop) {
                 return 0;
             }
             System.arraycopy(space, from, other, otherTop, cells);
@@ -2518,7 +2534,7 @@ public final class JinjaTongue {
         }
 
         void endCollecting() {
-            // Types and lengths are no references, so that every cell can be taken alike.
+            // Heads are no references, so that every cell can be taken alike.
             for (int cell = FIRST; cell < otherTop && cell < other.length; cell++) {
                 other[cell] = moved(other[cell]);
             }
@@ -2597,11 +2613,11 @@ public final class JinjaTongue {
 
         int uncaught(int what) {
             Decl decl = raised == 0 || program == null ? null : program.decl(heap.typeOf(raised));
-            if (decl == null || what < 0 || what - 2 >= decl.fieldCount()) {
+            if (decl == null || what < 0 || what - 2 >= decl.layout.size()) {
                 return NONE;
             }
             if (what < 2) {
-                return what == 0 ? decl.number : decl.fieldCount();
+                return what == 0 ? decl.number : decl.layout.size();
             }
             long value = heap.get(raised, what - 2);
             return Heap.isReference(value) ? 1 : (int) value;
@@ -2623,7 +2639,7 @@ public final class JinjaTongue {
             clear();
             program = runs;
             tally[FUEL] = fuel;
-            heap.start(runs, cells);
+            heap.start(cells);
             end = RUNNING;
             makeObject(program.find(Text.MAIN_CLASS));
             if (end == RUNNING) {
@@ -2635,7 +2651,14 @@ public final class JinjaTongue {
         int work() {
             for (int n = 0; n < MOST_STEPS && end == RUNNING; n++) {
                 next = pc + 1;
-                step(code.operation(pc), code.left(pc), code.right(pc));
+                int operation = code.operation(pc);
+                if (operation < Code.IS) {
+                    step(operation, code.left(pc));
+                } else if (operation < Code.RETURN) {
+                    stepAmongThings(operation, code.left(pc), code.right(pc));
+                } else {
+                    stepOut(operation, code.left(pc), code.right(pc));
+                }
                 if (raised != 0) {
                     goOutward();
                 }
@@ -2653,7 +2676,8 @@ public final class JinjaTongue {
             end = ENDED;
         }
 
-        private void step(int operation, int left, int right) {
+        /** Numbers, truths and variables. */
+        private void step(int operation, int left) {
             switch (operation) {
                 case Code.FUEL:
                     burn();
@@ -2696,12 +2720,13 @@ public final class JinjaTongue {
                     print((int) pop());
                     break;
                 default:
-                    stepFurther(operation, left, right);
+                    refuse();
                     break;
             }
         }
 
-        private void stepFurther(int operation, int left, int right) {
+        /** Objects, arrays and calls. */
+        private void stepAmongThings(int operation, int left, int right) {
             switch (operation) {
                 case Code.IS:
                 case Code.AS:
@@ -2740,7 +2765,7 @@ public final class JinjaTongue {
                     throwValue(pop());
                     break;
                 default:
-                    stepOut(operation, left, right);
+                    refuse();
                     break;
             }
         }
@@ -2949,7 +2974,7 @@ public final class JinjaTongue {
             if (array == 0) {
                 raise(NULL);
             } else {
-                pushNumber(heap.lengthOf(array));
+                pushNumber(heap.partsOf(array));
             }
         }
 
@@ -3000,7 +3025,7 @@ public final class JinjaTongue {
                 raise(NULL);
                 return false;
             }
-            if (index < 0 || index >= heap.lengthOf(array)) {
+            if (index < 0 || index >= heap.partsOf(array)) {
                 raise(INDEX);
                 return false;
             }
@@ -3012,7 +3037,7 @@ public final class JinjaTongue {
             if (decl == null) {
                 refuse();
             } else {
-                make(type, 1 + decl.fieldCount());
+                make(type, decl.cells());
             }
         }
 
@@ -3040,27 +3065,25 @@ public final class JinjaTongue {
             tally[CELLS] += (int) cells;
         }
 
+        /** Of a frame's slots only those of variables in scope are held; behind all slots stand the operands. */
         private void collect() {
             heap.beginCollecting();
-            int frameBase = base;
+            int first = base;
             int frameEnd = top;
             int at = pc;
             Method running = method;
             for (int call = open - 1; call >= 0 && running != null; call--) {
-                moveFrame(frameBase, frameBase + code.heldAt(at), frameBase + running.slots, frameEnd);
-                frameEnd = frameBase;
+                int heldEnd = first + code.heldAt(at);
+                int slotsEnd = first + running.slots;
+                for (int i = Math.max(first, 0); i < frameEnd && i < stack.length; i++) {
+                    stack[i] = i < heldEnd || i >= slotsEnd ? heap.moved(stack[i]) : 0;
+                }
+                frameEnd = first;
                 at = frames[3 * call];
-                frameBase = frames[3 * call + 1];
+                first = frames[3 * call + 1];
                 running = program.method(frames[3 * call + 2]);
             }
             heap.endCollecting();
-        }
-
-        /** Of the slots only those of variables in scope are held; behind all slots stand the operands. */
-        private void moveFrame(int first, int heldEnd, int slotsEnd, int frameEnd) {
-            for (int i = Math.max(first, 0); i < frameEnd && i < stack.length; i++) {
-                stack[i] = i < heldEnd || i >= slotsEnd ? heap.moved(stack[i]) : 0;
-            }
         }
 
         // ---- calls
