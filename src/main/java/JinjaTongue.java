@@ -220,6 +220,7 @@ public final class JinjaTongue {
 
         private static final int LONGEST_NAME = 16;
         private static final int MOST_DIGITS = 10;
+        private static final long GREATEST = 2147483647;
         private static final int MOST_NAMES = TAPE_BYTES / 2 + BUILT_IN + 2;
         private static final int BUCKETS = 256;
 
@@ -351,7 +352,7 @@ public final class JinjaTongue {
                 right = isDigit(byteAt(i));
                 number = number * 10 + byteAt(i) - '0';
             }
-            if (!right || number > Integer.MAX_VALUE) {
+            if (!right || number > GREATEST) {
                 return add(WRONG, at, 0, at);
             }
             return add(NUMBER, at, (int) number, end);
@@ -634,7 +635,7 @@ public final class JinjaTongue {
         static final int MOST_DECLS = 30;
         static final int BUILT_IN = 7;
         private static final int TWICE = 3, UNKNOWN = 4, KIND = 5, RING = 6, SIGNATURE = 7, MISSING = 8, NO_MAIN = 9;
-        private static final int CLEAN = Integer.MAX_VALUE;
+        private static final int CLEAN = 2147483647;
 
         private final Text text;
         private final Decl[] decls;
