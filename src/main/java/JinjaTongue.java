@@ -2556,7 +2556,7 @@ public final class JinjaTongue {
         // A frame: this, 30 variables, two slots for each of 20 LASTS, and of an E 60 operands and 20 calls' arguments.
         private static final int STACK = MOST_OPEN * 320;
         /** Far above what 20,000 of FUEL allow: between two of them a run goes only forward in its code. */
-        private static final int MOST_STEPS = 2000000000;
+        private static final int MOST_STEPS = 400000000;
         /** How a LAST was come into; a jump by its aim instead. */
         private static final int BY_END = -1, BY_THROW = -2, BY_RETURN = -3;
         private static final long NUMBER = 0xFFFFFFFFL;
