@@ -161,6 +161,8 @@ public final class BodiesTest {
 
     private static void assigned() {
         body(13, "int x; return @x;");
+        body(13, "int x = 1; return x; } int m() { int x; return @x;");
+        body(13, "return 1; } int m(int a) { int x; return @x;");
         body(13, "int x = @x; return 1;");
         body(13, "int x; x = @x + 1; return 1;");
         body(13, "int[] x; @x[0] = 1; return 1;");

@@ -28,6 +28,7 @@ public final class ExceptionTest {
         Checks.throwsOut(NULL, "class Main { int f; int main() { Main m = null; m.f = 1; return 1; } }");
         main(INDEX, "return new int[3][3];");
         main(INDEX, "return new int[3][-1];");
+        main(INDEX, "return new Object[3][3] == null ? 1 : 2;");
         main(INDEX, "new int[0][0] = 1; return 1;");
         main(STORE, "Object[] o = new Main[1]; o[0] = new Object(); return 1;");
         main(STORE, "Object[] o = new Main[1]; o[0] = new int[1]; return 1;");
@@ -36,6 +37,7 @@ public final class ExceptionTest {
         main(CAST, "Object o = this; return (o as Zero) == null ? 1 : 2;");
         main(CAST, "Object o = this; return (o as int[]).length;");
         main(CAST, "Object o = new int[1]; throw o;");
+        main(CAST, "Object o = new Object[1]; throw o;");
         Checks.gives(1, Checks.main("Object o = null; return (o as Zero) == null ? 1 : 2;"));
         main(SIZE, "return new int[-1].length;");
         main(SIZE, "return new Main[-2147483647 - 1].length;");
@@ -88,6 +90,12 @@ public final class ExceptionTest {
 
     private static void lasts() {
         Checks.printed(Checks.gives(1, Checks.main("try { print(1); } finally { print(2); } return 1;")), 1, 2);
+        Checks.printed(Checks.gives(1, Checks.main("try { print(1); } catch (Zero z) { print(8); } catch (Object o) { "
+            + "print(9); } finally { print(2); } return 1;")), 1, 2);
+        Checks.printed(Checks.gives(1, Checks.main("try { print(1 / 0); } catch (Zero z) { print(8); } catch (Object o) { "
+            + "print(9); } finally { print(2); } return 1;")), 8, 2);
+        Checks.printed(Checks.gives(1, Checks.main("try { print(1); } catch (Zero z) { print(8); } print(3); return 1;")),
+            1, 3);
         Checks.printed(Checks.gives(1, Checks.main("try { return 1; } finally { print(2); }")), 2);
         Checks.printed(Checks.throwsOut(ZERO, Checks.main("try { return 1 / 0; } finally { print(2); }")), 2);
         Checks.printed(Checks.gives(4, Checks.main("try { return 1 / 0; } catch (Zero z) { print(3); return 4; } finally { "

@@ -9,6 +9,7 @@ public final class RunTest {
         order();
         dispatch();
         depth();
+        againAndAgain();
         counts();
         thrownFields();
         Checks.end();
@@ -186,6 +187,25 @@ public final class RunTest {
         Checks.due("run", Checks.run(z, 20000, 10), 1);
         Checks.due("thrown(0)", z.thrown(0), 1);
         Checks.due("count(10)", z.count(10), 100);
+    }
+
+    /** Nothing of a run, however it ended, is there in the next one. */
+    private static void againAndAgain() {
+        JinjaTongue x = Checks.program("class Main { Main m; int n; int down(int k) { Main o = new Main(); o.m = this; "
+            + "o.n = k; return read() == 1 ? 1 / (k - k) : o.down(k + 1) + o.n; } int main() { return down(0); } }");
+        for (int i = 0; i < 100; i++) {
+            Checks.due("too deep", Checks.run(x, 20000, 3000), 4);
+            Checks.due("count(8)", x.count(8), 100);
+            Checks.due("no fuel", Checks.run(x, 150, 3000), 2);
+            Checks.due("count(5)", x.count(5), 0);
+            Checks.due("no room", Checks.run(x, 20000, 50), 3);
+            Checks.due("count(9)", x.count(9), 48);
+            x.input(1);
+            Checks.due("thrown", Checks.run(x, 20000, 3000), 1);
+            Checks.due("thrown(0)", x.thrown(0), 3);
+            x.forget();
+        }
+        Checks.due("refusals", x.refusals(), 0);
     }
 
     private static void counts() {

@@ -74,6 +74,9 @@ public final class SyntaxTest {
         body(1, "int@; return 1;");
         body(1, "if (true) @int x = 1; return 1;");
         body(1, "if (true) Main @x; return 1;");
+        body(1, "if (true) ; else @int x; return 1;");
+        body(1, "while (true) @int x; return 1;");
+        body(1, "for (; ; ) @boolean x; return 1;");
         body(1, "5@; return 1;");
         body(1, "x@; return 1;");
         body(1, "x @+ 1; return 1;");

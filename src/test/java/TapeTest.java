@@ -5,6 +5,7 @@ public final class TapeTest {
         feedAndBack();
         order();
         readTakesAll();
+        readOften();
         Checks.end();
     }
 
@@ -62,6 +63,27 @@ public final class TapeTest {
         x.feed(0x20202020, 0x20202020, 0x20202020, 0x20202020, 0x20202023);
         x.back(1);
         Checks.due("read() of 19 blanks", x.read(), 9 + 16 * 19);
+    }
+
+    private static void readOften() {
+        JinjaTongue x = new JinjaTongue();
+        StringBuilder long1 = new StringBuilder("int n = 0; ");
+        while (long1.length() < 1900) {
+            long1.append("try { n = n + 1; } finally { n = n + 1; } ");
+        }
+        int tries = (long1.length() - 11) / 42;
+        for (int i = 0; i < 4; i++) {
+            Checks.due("read() again", Checks.read(x, Checks.main(long1 + "return n;")), 0);
+            Checks.due("run", Checks.run(x, 20000, 10), 0);
+            Checks.due("result", x.result(), 2L * tries);
+        }
+        JinjaTongue y = new JinjaTongue();
+        for (int i = 0; i < 100; i++) {
+            Checks.due("read() again", Checks.read(y, Checks.main("return " + i + ";")), 0);
+            Checks.due("run", Checks.run(y, 20000, 10), 0);
+            Checks.due("result", y.result(), i);
+        }
+        Checks.due("refusals", x.refusals() + y.refusals(), 0);
     }
 
     private static void readTakesAll() {
