@@ -193,7 +193,7 @@ public final class RunTest {
     private static void againAndAgain() {
         JinjaTongue x = Checks.program("class Main { Main m; int n; int down(int k) { Main o = new Main(); o.m = this; "
             + "o.n = k; return read() == 1 ? 1 / (k - k) : o.down(k + 1) + o.n; } int main() { return down(0); } }");
-        for (int i = 0; i < 100; i++) {
+        for (int i = 0; i < 40; i++) {
             Checks.due("too deep", Checks.run(x, 20000, 3000), 4);
             Checks.due("count(8)", x.count(8), 100);
             Checks.due("no fuel", Checks.run(x, 150, 3000), 2);

@@ -78,7 +78,7 @@ public final class TapeTest {
             Checks.due("result", x.result(), 2L * tries);
         }
         JinjaTongue y = new JinjaTongue();
-        for (int i = 0; i < 100; i++) {
+        for (int i = 0; i < 50; i++) {
             Checks.due("read() again", Checks.read(y, Checks.main("return " + i + ";")), 0);
             Checks.due("run", Checks.run(y, 20000, 10), 0);
             Checks.due("result", y.result(), i);
