@@ -4,6 +4,7 @@ public final class LimitsOfRunsTest {
         fuelOfStatements();
         fuelAhead();
         openCalls();
+        widestCalls();
         fuelNullDeep();
         leastAndMostCells();
         roomOfThings();
@@ -153,6 +154,31 @@ public final class LimitsOfRunsTest {
         JinjaTongue z = Checks.gives(300, Checks.main("int s = 0; for (int i = 0; i < 300; i = i + 1) { try { deep(i % 50); } catch (Zero "
             + "z) { s = s + 1; } } return s; } int deep(int n) { return n == 0 ? 1 / n : deep(n - 1);"));
         Checks.due("count(11)", z.count(11), 51);
+    }
+
+    /** A hundred open calls, each with thirty variables, and within nineteen calls' arguments. */
+    private static void widestCalls() {
+        StringBuilder locals = new StringBuilder();
+        for (int i = 0; i < 22; i++) {
+            locals.append("Object v").append(i).append(" = r; ");
+        }
+        String inner = "f(1, 2, 3, 4, 5, 6, 7, n - 1)";
+        for (int i = 0; i < 18; i++) {
+            inner = "g(1, 2, 3, 4, 5, 6, 7, 1 | 0 ^ 0 & " + inner + ")";
+        }
+        JinjaTongue x = Checks.program("class Main { int[] r; int g(int a, int b, int c, int d, int e, int f, int g, int n) { return n; } "
+            + "int f(int a, int b, int c, int d, int e, int f, int g, int n) { " + locals + "r = new int[8]; if (n == 0) return 1; return "
+            + inner + "; } int main() { return f(1, 2, 3, 4, 5, 6, 7, read()); } }");
+        for (int n : new int[] {50, 98, 99, 150}) {
+            boolean ends = n < 99;
+            x.forget();
+            x.input(n);
+            Checks.due("run of " + n, Checks.run(x, 20000, 3000), ends ? 0 : 4);
+            Checks.due("result", x.result(), ends ? 1 : 0);
+            Checks.due("count(8)", x.count(8), ends ? 2 + n : 100);
+            Checks.due("count(11)", x.count(11), ends ? 2 + n : 100);
+            Checks.due("refusals", x.refusals(), 0);
+        }
     }
 
     /** "each call .. (behind its arguments, ahead of Null, and that ahead of DEEP)". */
@@ -313,6 +339,16 @@ public final class LimitsOfRunsTest {
             + ", h, i;");
         held(11, "try { m(); } catch (Big b) { } finally { Object c = R; }", "void m() { throw new Big(); } } class Big { int a, b, c"
             + ", d, e, f, g, h, i;");
+        // What a BLOCK's or a CATCH's variables had is not on the way.
+        held(11, "try { Object a = R; } finally { Object b = R; }");
+        held(11, "try { int q = 1; Object a = R; } finally { Object b = R; }");
+        held(11, "try { int q = 1; int r = 1; Object a = R; } finally { int s = 1; Object b = R; }");
+        held(11, "try { print(1 / 0); } catch (Zero z) { Object a = R; } finally { Object b = R; }");
+        held(11, "try { print(1 / 0); } catch (Zero z) { int q = 1; Object a = R; } finally { Object b = R; }");
+        held(11, "while (true) { try { int q = 1; Object a = R; break; } finally { Object b = R; } }");
+        held(11, "m();", "void m() { try { int q = 1; Object a = R; return; } finally { Object b = R; } }");
+        held(11, "try { int q = 1; Object a = R; print(1 / 0); } catch (Zero z) { Object b = R; }");
+        held(11, "try { int q = 1; Object a = R; print(1 / 0); } catch (Zero z) { int r = 1; Object b = R; }");
         // What takes its place lets it go.
         held(11, "m(); Object a = R;", "void m() { while (true) { try { throw new Big(); } finally { break; } } } } class Big { int a"
             + ", b, c, d, e, f, g, h, i;");
