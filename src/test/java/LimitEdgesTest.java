@@ -373,6 +373,14 @@ public final class LimitEdgesTest {
         Checks.fault(1, Checks.main("return " + "1 + ".repeat(60) + "1 @="));
         Checks.fault(1, Checks.main("return " + "this" + " as Main".repeat(60) + " @+ 1;"));
         Checks.fault(2, Checks.main("return " + "1 + ".repeat(60) + "1 @+ #"));
+        // A token that is none can't be the first one too many.
+        String tooLong = "abcdefghijklmnopq";
+        Checks.fault(1, "class A { int " + numbered(20, "f#", ", ") + ", @" + tooLong + "; }" + MAIN);
+        Checks.fault(1, "class A { int " + numbered(20, "f#", ", ") + "; int @" + tooLong + "; }" + MAIN);
+        Checks.fault(1, "class A { " + numbered(30, "void m#() { } ", "") + "void @" + tooLong + "() { } }" + MAIN);
+        Checks.fault(1, "class A { void m(" + numbered(8, "int p#", ", ") + ", @" + tooLong + " p) { } }" + MAIN);
+        Checks.fault(1, Checks.main("{ ".repeat(20) + "@" + tooLong + " = 1;"));
+        Checks.fault(1, Checks.main("{ ".repeat(20) + "@int1234567890abcdef x;"));
         Checks.fault(1, Checks.main("return @# " + "1 + ".repeat(61)));
     }
 }

@@ -13,6 +13,8 @@ public final class LimitsOfRunsTest {
         heldParts();
         heldOnTheWay();
         sameWheneverCollected();
+        heldAndWhole();
+        thrownAndWhole();
         outward();
         Checks.end();
     }
@@ -391,6 +393,60 @@ public final class LimitsOfRunsTest {
             }
         }
         Checks.due("refusals", x.refusals() + y.refusals() + whole.refusals(), 0);
+    }
+
+    /** With few CELLS waste() has the heap collected: what is held is still there behind it, and the same. */
+    private static void whole(int result, String statements) {
+        JinjaTongue x = Checks.program("class Main { int n; Main next; Object[] all; int main() { " + statements + " } int waste(int k) { "
+            + "for (int i = 0; i < 40; i = i + 1) { int[] w = new int[3]; w[0] = 99; w[1] = 99; w[2] = 99; } return k; } Main made(int k)"
+            + " { Main m = new Main(); m.n = k; waste(1); return m; } Main same(Main m) { waste(1); return m; } int own() { waste(1); "
+            + "return n; } int both(Main a, Main b) { waste(1); return a.n * 10 + b.n; } Main last(int k) { try { return made(k); } "
+            + "finally { waste(1); } } void thrown(int k) { try { throw made(k); } finally { waste(1); } } }");
+        for (int cells = 30; cells <= 60; cells++) {
+            Checks.due("run(20000, " + cells + ") of " + statements, Checks.run(x, 20000, cells), 0);
+            Checks.due("result of " + statements, x.result(), result);
+        }
+    }
+
+    private static void heldAndWhole() {
+        whole(5, "Main m = made(5); waste(1); return m.n;");
+        whole(5, "n = 5; waste(1); return n;");
+        whole(5, "return made(5).own();");
+        whole(56, "return both(made(5), made(6));");
+        whole(5, "return same(made(5)).n;");
+        whole(11, "return made(5).n + made(6).n;");
+        whole(1, "Main m = made(5); return m == same(m) ? 1 : 0;");
+        whole(0, "return made(5) == made(5) ? 1 : 0;");
+        whole(7, "Main m = made(5); m.n = waste(7); return m.n;");
+        whole(8, "int[] a = new int[2]; a[waste(1)] = waste(8); return a[1];");
+        whole(5, "all = new Object[3]; all[2] = made(5); all[0] = all[2]; waste(1); return all[0] == all[2] ? (all[0] as Main).n : 0;");
+        whole(6, "next = made(5); next.next = made(6); next.next.next = next; waste(1); return next.next.next.next.n;");
+        whole(5, "return last(5).n;");
+        whole(5, "try { thrown(5); } catch (Main m) { waste(1); return m.n; } return 0;");
+        whole(5, "try { try { thrown(5); } finally { waste(1); } } catch (Main m) { return m.n; } return 0;");
+        whole(5, "try { try { thrown(5); } catch (Main m) { waste(1); throw m; } finally { waste(1); } } catch (Main m) { return m.n; } "
+            + "return 0;");
+        whole(1, "Object z = null; try { print(1 / 0); } catch (Zero e) { z = e; } waste(1); try { print(1 % 0); } catch (Zero e) { return "
+            + "e == z ? 1 : 0; } return 2;");
+        whole(9, "int a = 4; boolean b = true; Main m = null; waste(1); return b && m == null ? a + 5 : 0;");
+        whole(1, "Object o = new Main[2]; waste(1); return o is Main[] && !(o is Zero[]) && (o as Main[]).length == 2 ? 1 : 0;");
+        whole(5, "for (Main m = made(5); ; m = made(6)) { waste(1); return m.n; }");
+        whole(3, "Main m = made(1); m.next = made(2); return waste(m.n) + waste(m.next.n);");
+    }
+
+    /** Of the exception that nothing caught all fields are there, wherever its object has come to lie. */
+    private static void thrownAndWhole() {
+        JinjaTongue x = Checks.program("class E extends Zero { int a; E b; boolean c; int[] d; Object e; } class Main { int main() { int[] "
+            + "gone = new int[5]; E e = new E(); e.a = 41; e.b = e; e.c = true; gone = null; try { for (int i = 0; i < 30; i = i + 1) { "
+            + "int[] w = new int[4]; w[0] = 7; } throw e; } finally { for (int i = 0; i < 30; i = i + 1) { int[] w = new int[3]; w[2] = 9"
+            + "; } e.a = e.a + 1; } } }");
+        int[] due = {7, 5, 42, 1, 1, 0, 0};
+        for (int cells = 14; cells <= 40; cells++) {
+            Checks.due("run(20000, " + cells + ")", Checks.run(x, 20000, cells), 1);
+            for (int what = 0; what < due.length; what++) {
+                Checks.due("thrown(" + what + ")", x.thrown(what), due[what]);
+            }
+        }
     }
 
     /** "throw goes outward: to the first CATCH, of the innermost try around in whose BLOCK it comes up, of whose class ..". */
